@@ -1,0 +1,37 @@
+/** Compares answers with those that are due, prints the ones that differ, and ends with exit code 1 if there were any. */
+final class Due {
+    private final String title;
+    private int asked;
+    private int wrong;
+
+    Due(String title) {
+        this.title = title;
+    }
+
+    void is(String call, long got, long want) {
+        asked++;
+        if (got != want) {
+            wrong++;
+            System.out.println(title + ": " + call + " answered " + got + ", due is " + want);
+        }
+    }
+
+    void text(String call, String got, String want) {
+        is(call + " \"" + got + "\" against \"" + want + "\"", got.equals(want) ? 1 : 0, 1);
+    }
+
+    void yes(String call, boolean got) {
+        is(call, got ? 1 : 0, 1);
+    }
+
+    void no(String call, boolean got) {
+        is(call, got ? 1 : 0, 0);
+    }
+
+    void end() {
+        System.out.println(title + ": " + asked + " answers, " + wrong + " of them wrong");
+        if (wrong != 0) {
+            System.exit(1);
+        }
+    }
+}
