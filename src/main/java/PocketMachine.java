@@ -231,9 +231,6 @@ public final class PocketMachine {
         private final int[] firstOfName = new int[NAMES];
 
         Source() {
-            for (int m = 0; m < METHODS; m++) {
-                routines[m] = new Routine();
-            }
             Arrays.fill(own, BAD);
             Arrays.fill(firstOfName, BAD);
         }
@@ -243,7 +240,7 @@ public final class PocketMachine {
         }
 
         boolean isRoutine(int m) {
-            return m >= 0 && m < routineCount && m < METHODS;
+            return m >= 0 && m < routineCount && m < METHODS && routines[m] != null;
         }
 
         boolean isStaticRoutine(int m) {
@@ -286,29 +283,28 @@ public final class PocketMachine {
             if (!fits || routineCount >= METHODS || !within(references, 0, (1 << arguments) - 1)) {
                 return BAD;
             }
-            Routine routine = routines[routineCount];
+            int taken = name == NONE ? arguments : arguments + 1;
+            if (!within(locals, taken, LOCALS) || ownRoutine(owner, name) != BAD
+                    || !agrees(name, arguments, references, returns)) {
+                return BAD;
+            }
+            Routine routine = new Routine();
             routine.owner = owner;
             routine.name = name;
             routine.arguments = arguments;
             routine.references = references;
             routine.returns = returns;
             routine.locals = locals;
-            if (!within(locals, routine.taken(), LOCALS) || !agrees(routine)) {
-                return BAD;
-            }
+            routines[routineCount] = routine;
             enlist(routine, routineCount);
             return routineCount++;
         }
 
-        /** Whether others of the same name leave room for this method. */
-        private boolean agrees(Routine routine) {
-            int first = routineOfName(routine.name);
-            if (!isRoutine(first)) {
-                return true;
-            }
-            Routine other = routines[first];
-            return other.arguments == routine.arguments && other.references == routine.references
-                    && other.returns == routine.returns && ownRoutine(routine.owner, routine.name) == BAD;
+        /** Whether the others of the name take and return the same. */
+        private boolean agrees(int name, int arguments, int references, int returns) {
+            int first = routineOfName(name);
+            return !isRoutine(first) || routines[first].arguments == arguments
+                    && routines[first].references == references && routines[first].returns == returns;
         }
 
         private void enlist(Routine routine, int number) {
@@ -470,7 +466,7 @@ public final class PocketMachine {
         private boolean scanNew() {
             boolean any = false;
             for (int m = 0; m < METHODS; m++) {
-                if (routines[m] && !scanned[m]) {
+                if (hasRoutine(m) && !scanned[m]) {
                     scanned[m] = true;
                     any = true;
                     scan(source.routines[m]);
@@ -517,7 +513,7 @@ public final class PocketMachine {
 
         private void addOwners() {
             for (int m = 0; m < METHODS; m++) {
-                if (routines[m] && !source.routines[m].isStatic()) {
+                if (hasRoutine(m) && !source.routines[m].isStatic()) {
                     addKind(source.routines[m].owner);
                 }
             }
@@ -809,13 +805,14 @@ public final class PocketMachine {
     /** An image of bytes, with what a run of it needs of the source beside it. */
     private static final class Image {
         int length;
-        private final int[] bytes;
+        private final int room;
+        private int[] bytes = new int[64];
         private final int[] headOf = new int[METHODS];
         private final int[] takenByName = new int[NAMES];
         private final int[] sourceKind = new int[CLASSES];
 
         Image(int room) {
-            bytes = new int[Math.max(room, HEAD_BYTES)];
+            this.room = room;
         }
 
         void clear() {
@@ -824,8 +821,11 @@ public final class PocketMachine {
 
         /** One more byte; false: there is no room. */
         boolean put(int b) {
-            if (length >= bytes.length) {
+            if (length >= room) {
                 return false;
+            }
+            if (length >= bytes.length) {
+                bytes = Arrays.copyOf(bytes, 2 * length);
             }
             bytes[length] = b & 255;
             length++;
@@ -857,7 +857,7 @@ public final class PocketMachine {
         }
 
         void seal() {
-            if (length < HEAD_BYTES) {
+            if (length < HEAD_BYTES || bytes.length < HEAD_BYTES) {
                 return;
             }
             bytes[5] = length >> 8 & 255;
@@ -877,7 +877,10 @@ public final class PocketMachine {
         }
 
         void copyFrom(Image other) {
-            length = Math.min(other.length, Math.min(other.bytes.length, bytes.length));
+            if (bytes.length < other.bytes.length) {
+                bytes = new int[other.bytes.length];
+            }
+            length = Math.min(other.length, other.bytes.length);
             System.arraycopy(other.bytes, 0, bytes, 0, length);
             System.arraycopy(other.headOf, 0, headOf, 0, METHODS);
             System.arraycopy(other.takenByName, 0, takenByName, 0, NAMES);
@@ -1067,11 +1070,11 @@ public final class PocketMachine {
 
         /** Writes a method's head, and answers how long its code is. */
         private int writeHead(Image image, int m, int codeAt) {
-            if (!within(m, 0, METHODS - 1)) {
+            if (!reach.hasRoutine(m)) {
                 return 0;
             }
             Routine routine = source.routines[m];
-            findOffsets(m);
+            findOffsets(routine, m);
             int length = offsetOf(routine.length);
             image.noteHead(reach.newRoutine(m));
             image.putTwo(codeAt);
@@ -1090,14 +1093,17 @@ public final class PocketMachine {
             return length;
         }
 
-        private void findOffsets(int m) {
-            Routine routine = source.routines[m];
+        private void findOffsets(Routine routine, int m) {
             int offset = 0;
             for (int i = 0; i < CODE; i++) {
                 offsets[i] = offset;
-                offset += seen[m * CODE + i] ? bytesOf(writtenOp(routine.ops[i], routine.operands[i])) : 1;
+                offset += wasSeen(m, i) ? bytesOf(writtenOp(routine.ops[i], routine.operands[i])) : 1;
             }
             offsets[CODE] = offset;
+        }
+
+        private boolean wasSeen(int m, int i) {
+            return within(m, 0, METHODS - 1) && within(i, 0, CODE - 1) && seen[m * CODE + i];
         }
 
         private int offsetOf(int i) {
@@ -1109,13 +1115,13 @@ public final class PocketMachine {
         }
 
         private void writeCode(Image image, int m) {
-            if (!within(m, 0, METHODS - 1)) {
+            if (!reach.hasRoutine(m)) {
                 return;
             }
-            findOffsets(m);
             Routine routine = source.routines[m];
+            findOffsets(routine, m);
             for (int i = 0; i < routine.length && i < CODE; i++) {
-                if (seen[m * CODE + i]) {
+                if (wasSeen(m, i)) {
                     writeInstruction(image, routine.ops[i], routine.operands[i]);
                 } else {
                     image.put(0);
@@ -1211,9 +1217,10 @@ public final class PocketMachine {
         private static final int OWNER = 1, ENTRIES = 2, FORWARD = 3, PLACES = 4;
 
         int collections;
-        private final char[] words = new char[WORDS];
-        private final int[] todo = new int[WORDS / HEAD + 1];
-        private final boolean[] begins = new boolean[WORDS];
+        // These rows are made at the first boot: many an object is never booted.
+        private char[] words = new char[0];
+        private int[] todo = new int[0];
+        private boolean[] begins = new boolean[0];
         private final int[] ints = new int[CLASSES];
         private final int[] refs = new int[CLASSES];
         private int todoCount;
@@ -1221,6 +1228,11 @@ public final class PocketMachine {
         private int limit;
 
         void start(Image image, int heap) {
+            if (words.length < WORDS) {
+                words = new char[WORDS];
+                todo = new int[WORDS / HEAD + 1];
+                begins = new boolean[WORDS];
+            }
             for (int c = 0; c < CLASSES; c++) {
                 ints[c] = c < image.kinds() ? image.allInts(c) : 0;
                 refs[c] = c < image.kinds() ? image.allRefs(c) : 0;
@@ -1252,7 +1264,7 @@ public final class PocketMachine {
         /** A new object, where hasRoomFor() has said that there is room. */
         int place(int kind, int length) {
             int size = wordsFor(kind, length);
-            if (size < HEAD || top + size > WORDS) {
+            if (size < HEAD || top + size > words.length) {
                 return 0;
             }
             int ref = top;
@@ -1268,11 +1280,11 @@ public final class PocketMachine {
         }
 
         private int word(int at) {
-            return at >= 0 && at < WORDS ? words[at] : 0;
+            return at >= 0 && at < words.length ? words[at] : 0;
         }
 
         private void setWord(int at, int value) {
-            if (within(at, FIRST, WORDS - 1)) {
+            if (at >= FIRST && at < words.length) {
                 words[at] = (char) value;
             }
         }
@@ -1376,10 +1388,10 @@ public final class PocketMachine {
         }
 
         private void mark(int ref) {
-            if (!within(ref, FIRST, top - HEAD) || words[ref + FORWARD] != 0 || todoCount >= todo.length) {
+            if (ref < FIRST || ref + HEAD > top || word(ref + FORWARD) != 0 || todoCount >= todo.length) {
                 return;
             }
-            words[ref + FORWARD] = 1;
+            setWord(ref + FORWARD, 1);
             todo[todoCount] = ref;
             todoCount++;
         }
@@ -1421,7 +1433,7 @@ public final class PocketMachine {
             for (int ref = FIRST; ref < top; ref += size) {
                 size = sizeAt(ref);
                 int to = word(ref + FORWARD);
-                if (to >= FIRST && to <= ref && ref + size <= WORDS) {
+                if (to >= FIRST && to <= ref && ref + size <= words.length) {
                     setWord(ref + FORWARD, 0);
                     System.arraycopy(words, ref, words, to, size);
                     free = to + size;
@@ -1443,15 +1455,15 @@ public final class PocketMachine {
 
         /** Whether objects lie one behind the other within memory; notes where each one begins. */
         boolean findBeginnings() {
-            for (int w = 0; w < WORDS; w++) {
+            for (int w = 0; w < begins.length; w++) {
                 begins[w] = false;
             }
             int end = FIRST;
-            for (int ref = FIRST; ref < top && ref < WORDS; ref = end) {
+            for (int ref = FIRST; ref < top && ref < begins.length; ref = end) {
                 begins[ref] = true;
                 end = ref + sizeAt(ref);
             }
-            return end == top && used() <= limit && top <= WORDS;
+            return end == top && used() <= limit && top <= words.length;
         }
 
         boolean rowLeadsWell(int[] values, int[] marks, int count) {
@@ -1464,7 +1476,7 @@ public final class PocketMachine {
         }
 
         private boolean leadsWell(int ref) {
-            return ref == 0 || within(ref, FIRST, WORDS - 1) && begins[ref];
+            return ref == 0 || ref >= FIRST && ref < begins.length && begins[ref];
         }
 
         boolean fieldsLeadWell() {
@@ -1495,18 +1507,14 @@ public final class PocketMachine {
         private final int[] places = new int[DEPTH];
         private final int[] heights = new int[DEPTH];
 
-        void start(int routine, int place) {
+        /** Starts with a method and its first local, and whether that is a reference. */
+        void start(int routine, int place, int value, int mark) {
             state = ALIVE;
             failure = 0;
             depth = 0;
             enter(routine, place);
-        }
-
-        /** Starts with a method that takes a receiver. */
-        void startWith(int routine, int place, int receiver) {
-            start(routine, place);
-            values[0] = receiver;
-            marks[0] = 1;
+            values[0] = value;
+            marks[0] = mark;
         }
 
         /** How many slots the methods that go on use. */
@@ -1683,9 +1691,6 @@ public final class PocketMachine {
         private int thrownKind;
 
         Engine() {
-            for (int t = 0; t < THREADS; t++) {
-                strands[t] = new Strand();
-            }
             Arrays.fill(refStaticMarks, 1);
         }
 
@@ -1697,12 +1702,24 @@ public final class PocketMachine {
             Arrays.fill(refStatics, 0);
             booted = true;
             thrown = 0;
-            strands[0].start(image.main(), image.codeAt(image.main()));
-            begun = 1;
+            begun = 0;
+            beginStrand(image.main(), 0, 0);
+        }
+
+        /** One more thread: the first local of its method is the receiver, if it takes one. */
+        private void beginStrand(int routine, int receiver, int mark) {
+            if (!within(begun, 0, THREADS - 1)) {
+                return;
+            }
+            if (strands[begun] == null) {
+                strands[begun] = new Strand();
+            }
+            strands[begun].start(routine, image.codeAt(routine), receiver, mark);
+            begun++;
         }
 
         boolean isStrand(int t) {
-            return t >= 0 && t < begun && t < THREADS;
+            return t >= 0 && t < begun && t < THREADS && strands[t] != null;
         }
 
         /** Whether a thread's next instruction can be done now. */
@@ -1882,12 +1899,12 @@ public final class PocketMachine {
         private void collect() {
             memory.beginMarking();
             memory.markRow(refStatics, refStaticMarks, STATICS);
-            for (int t = 0; t < begun && t < THREADS; t++) {
+            for (int t = 0; t < THREADS && isStrand(t); t++) {
                 memory.markRow(strands[t].values, strands[t].marks, strands[t].slots());
             }
             memory.plan();
             memory.forwardRow(refStatics, refStaticMarks, STATICS);
-            for (int t = 0; t < begun && t < THREADS; t++) {
+            for (int t = 0; t < THREADS && isStrand(t); t++) {
                 memory.forwardRow(strands[t].values, strands[t].marks, strands[t].slots());
             }
             memory.forwardFields();
@@ -1986,11 +2003,10 @@ public final class PocketMachine {
             if (routine == NO_NUMBER) {
                 return NO_METHOD;
             }
-            if (!within(begun, 0, THREADS - 1)) {
+            if (begun >= THREADS) {
                 return NO_THREAD;
             }
-            strands[begun].startWith(routine, image.codeAt(routine), ref);
-            begun++;
+            beginStrand(routine, ref, 1);
             return GOES_ON;
         }
 
@@ -2087,10 +2103,13 @@ public final class PocketMachine {
         }
 
         boolean isSound() {
+            if (!booted) {
+                return true;
+            }
             if (!memory.findBeginnings() || !memory.rowLeadsWell(refStatics, refStaticMarks, STATICS)) {
                 return false;
             }
-            for (int t = 0; t < begun && t < THREADS; t++) {
+            for (int t = 0; t < THREADS && isStrand(t); t++) {
                 if (!memory.rowLeadsWell(strands[t].values, strands[t].marks, strands[t].slots())) {
                     return false;
                 }

@@ -1,5 +1,6 @@
 /** Compares answers with those that are due, prints the ones that differ, and ends with exit code 1 if there were any. */
 final class Due {
+    private static final int PRINTED = 40;
     private final String title;
     private int asked;
     private int wrong;
@@ -12,7 +13,9 @@ final class Due {
         asked++;
         if (got != want) {
             wrong++;
-            System.out.println(title + ": " + call + " answered " + got + ", due is " + want);
+            if (wrong <= PRINTED) {
+                System.out.println(title + ": " + call + " answered " + got + ", due is " + want);
+            }
         }
     }
 

@@ -27,12 +27,28 @@ public final class FaceTest {
         due.is("constructors", constructors.length, 1);
         due.is("constructor is public", constructors[0].getModifiers(), Modifier.PUBLIC);
         due.is("constructor's arguments", constructors[0].getParameterCount(), 0);
+        for (Class<?> inside : PocketMachine.class.getDeclaredClasses()) {
+            due.yes(inside + " is private and static", (inside.getModifiers() & (Modifier.PRIVATE | Modifier.STATIC))
+                    == (Modifier.PRIVATE | Modifier.STATIC));
+            for (Method m : inside.getDeclaredMethods()) {
+                due.no(inside + " has a " + m.getName(), faceHas(m.getName()));
+            }
+        }
         String source = Files.readString(Path.of("src/main/java/PocketMachine.java"));
         String code = source.replaceAll("(?s)/\\*.*?\\*/", " ").replaceAll("//[^\n]*", " ");
         for (String word : new String[] {"throw", "try", "catch", "synchronized", "assert", "Exact", "->", "::"}) {
             due.no("the word " + word, Pattern.compile("(?<![\\w\"])" + word + "(?![\\w\"])").matcher(code).find());
         }
         due.end();
+    }
+
+    private static boolean faceHas(String name) {
+        for (String method : METHODS) {
+            if (method.contains(" " + name + "(")) {
+                return true;
+            }
+        }
+        return false;
     }
 
     private static String visibleMethods() {
