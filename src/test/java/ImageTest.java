@@ -10,7 +10,8 @@ public final class ImageTest {
         numbersAnew();
         methodsOfClasses();
         trapsAndDeadCode();
-        longest();
+        longImage();
+        longestImage();
         feeding();
         checking();
         due.end();
@@ -122,7 +123,7 @@ public final class ImageTest {
                 + "61 1 44 17 19 0 8 0 40 17 40 0"));
     }
 
-    private static void longest() {
+    private static void longImage() {
         Bench b = new Bench();
         for (int c = 0; c < 10; c++) {
             b.cls(c - 1, 6, 6);
@@ -151,6 +152,32 @@ public final class ImageTest {
             b.x.feed(b.x.image(i));
         }
         due.is("check()", b.x.check(), 0);
+    }
+
+    /** As long as one can be: only 23 calls are shorter than three bytes. */
+    private static void longestImage() {
+        Bench b = new Bench();
+        for (int c = 0; c < 10; c++) {
+            b.cls(c - 1, 6, 6);
+        }
+        for (int m = 0; m < 24; m++) {
+            b.x.method(0, NONE, 0, 0, 0, 12);
+            for (int i = 0; i < 57; i++) {
+                b.x.code(m == 0 && i < 23 ? 38 : 19, i + 1);
+            }
+            b.x.code(19, 0);
+            b.x.code(23, 59);
+            b.x.code(19, 0);
+            for (int t = 0; t < 6; t++) {
+                b.x.trap(t, 57, 58, t == 0 ? 9 : -t);
+            }
+        }
+        due.is("the longest image", b.x.link(0), 9 + 10 * 11 + 24 * (9 + 6 * 7 + 180) - 23);
+        due.is("its last byte but two", b.x.image(5637), 19);
+        due.is("fields of class 9", b.x.image(9 + 9 * 11 + 1), 60);
+        due.yes("it boots", b.x.boot(50, 50));
+        due.is("it runs", b.x.run(100), 100);
+        due.is("two deep", b.x.thread(0, 1), 2);
     }
 
     private static void feeding() {

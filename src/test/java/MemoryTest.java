@@ -14,6 +14,7 @@ public final class MemoryTest {
         localsAndStacks();
         whatReturnedGoes();
         objectsMove();
+        lastOfTenClasses();
         soundAllTheWay();
         due.end();
     }
@@ -95,6 +96,15 @@ public final class MemoryTest {
         due.text("66", b.result(m, 9, 66), "1");
         due.is("no collection", b.x.told(6), 0);
         due.is("three are there", b.x.told(5), 66);
+        Bench c = bench();
+        // An array of 27 references takes 64, nine of 200 ints take 810 each, one of 159 ints the last 646.
+        int full = c.main(2, 1, 27, 35, 0, 3, 0, 1, 0, 3, 1, 2, 0, 2, 1, 1, 200, 31, 0, 37, 0,
+                2, 1, 1, 1, 4, 0, 16, 0, 3, 1, 1, 9, 25, 5, 1, 159, 31, 0, 55, 0, 1, 1, 46, 0,
+                2, 0, 1, 8, 36, 0, 1, 199, 1, 77, 33, 0, 2, 0, 1, 8, 36, 0, 1, 199, 32, 0, 46, 0,
+                54, 0, 1, 158, 1, -1, 33, 0, 54, 0, 1, 158, 32, 0, 46, 0, 1, 0, 31, 0, 43, 0);
+        due.text("8,000 of 8,000", c.result(full, 9, 8000), "1 77 -1 by -9");
+        due.is("all of it", c.x.told(5), 64 + 9 * 810 + 646);
+        due.yes("sound()", c.x.sound());
     }
 
     private static void collections() {
@@ -207,6 +217,19 @@ public final class MemoryTest {
                 2, 1, 23, 33, 2, 1, 27, 0, 46, 0, 2, 1, 29, 0, 3, 1, 19, 23, 0, 0, 40, 0);
         due.text("20 are kept", b.result(m, 9, 20 * 14 + 30), "19 18 17 16 15 14 13 12 11 10 9 8 7 6 5 4 3 2 1 0");
         due.yes("collections", b.x.told(6) > 3);
+        due.yes("sound()", b.x.sound());
+    }
+
+    private static void lastOfTenClasses() {
+        Bench b = new Bench();
+        for (int c = 0; c < 10; c++) {
+            b.cls(c - 1, 1, 1);
+        }
+        int m = b.main(1, 26, 0, 17, 0, 26, 9, 3, 0, 2, 0, 1, 5, 28, 72, 2, 0, 26, 8, 30, 72, 2, 0, 29, 72, 1, 6, 28, 64,
+                1, 200, 35, 0, 17, 0, 2, 0, 27, 72, 46, 0, 2, 0, 29, 72, 27, 64, 46, 0, 2, 0, 27, 40, 46, 0, 40, 0);
+        due.text("fields of the last classes, moved", b.result(m, 9, 8 + 60 + 8 + 54 + 410), "5 6 0");
+        due.is("a collection", b.x.told(6), 1);
+        due.is("sizes", b.x.told(5), 8 + 60 + 8 + 54 + 410);
         due.yes("sound()", b.x.sound());
     }
 

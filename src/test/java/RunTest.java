@@ -197,6 +197,26 @@ public final class RunTest {
         due.text("17", result(1, 7, 1, 8, 17, 0, 46, 0, 40, 0), "7");
         due.text("18", result(1, 7, 1, 8, 18, 0, 46, 0, 46, 0, 40, 0), "7 8");
         due.text("0", result(0, 99, 40, 0), "");
+        Bench b = bench();
+        due.text("the last of twelve locals", b.result(b.main(12, 1, 7, 3, 11, 1, 8, 2, 11, 46, 0, 46, 0, 40, 0)), "7 8");
+        due.text("ten values", result(1, 1, 1, 2, 1, 4, 1, 8, 1, 16, 1, 32, 1, 64, 1, 128, 1, 256, 1, 512,
+                4, 0, 4, 0, 4, 0, 4, 0, 4, 0, 4, 0, 4, 0, 4, 0, 4, 0, 46, 0, 40, 0), "1023");
+        leftValues();
+    }
+
+    /** What a method leaves on its stack, or a throw does, is not there for the next one. */
+    private static void leftValues() {
+        Bench b = bench();
+        int leaves = b.main(0, 1, 5, 1, 6, 1, 7, 40, 0);
+        int m = b.main(1, 38, leaves, 52, 0, 1, 1, 4, 0, 16, 0, 53, 0, 1, 20, 25, 0, 38, 2, 40, 0);
+        b.main(0, 1, 1, 1, 2, 1, 3, 1, 4, 1, 5, 1, 6, 1, 7, 1, 8, 1, 9, 1, 10,
+                46, 0, 46, 0, 46, 0, 46, 0, 46, 0, 46, 0, 46, 0, 46, 0, 46, 0, 46, 0, 40, 0);
+        due.text("stacks begin empty", b.result(m), "10 9 8 7 6 5 4 3 2 1");
+        Bench c = bench();
+        int n = c.main(1, 1, 1, 1, 2, 26, 0, 43, 0, 17, 0, 1, 1, 1, 2, 1, 3, 1, 4, 1, 5, 1, 6, 1, 7, 1, 8, 1, 9, 1, 10,
+                46, 0, 46, 0, 46, 0, 46, 0, 46, 0, 46, 0, 46, 0, 46, 0, 46, 0, 46, 0, 40, 0);
+        c.x.trap(0, 4, 4, -1);
+        due.text("a handler has nothing but what was thrown", c.result(n), "10 9 8 7 6 5 4 3 2 1");
     }
 
     /** Puts these, then the jump over an out of 1, then an out of 2. */
@@ -296,6 +316,11 @@ public final class RunTest {
         int m = b.main(1, 26, 0, 1, 5, 39, 3, 46, 0, 26, 1, 3, 0, 2, 0, 1, 7, 28, 0, 2, 0, 1, 5, 39, 3, 46, 0,
                 26, 3, 1, 5, 39, 3, 46, 0, 40, 0);
         due.text("39 finds the nearest", b.result(m), "105 35 0");
+        Bench zero = bench();
+        zero.met(0, 0, 2, 0, 1, 3, 2, 1, 2, 2, 5, 0, 41, 0);
+        zero.met(0, 7, 4, 9, 1, 5, 2, 2, 2, 3, 5, 0, 41, 0);
+        due.text("39 of the first name and the last one", zero.result(zero.main(0, 26, 0, 1, 9, 1, 5, 39, 0, 46, 0,
+                26, 0, 45, 0, 1, 9, 1, 3, 45, 0, 39, 7, 46, 0, 40, 0)), "4 6");
         due.text("39 of null", b.result(b.main(1, 45, 0, 1, 5, 39, 3, 46, 0, 40, 0)), " by -1");
         due.text("39 of a class without it", b.result(b.main(1, 26, 2, 1, 5, 39, 3, 46, 0, 40, 0)), " by -6");
         due.text("39 of an array", b.result(b.main(1, 1, 3, 35, 0, 1, 5, 39, 3, 46, 0, 40, 0)), " by -6");
@@ -351,6 +376,12 @@ public final class RunTest {
         int m = b.main(0, 26, 2, 43, 0);
         due.text("the class of the source", b.result(m), " by 102");
         due.is("though the image has but one", b.x.image(2), 1);
+        Bench c = bench();
+        while (c.x.told(0) < 10) {
+            c.cls(c.x.told(0) - 1, 0, 0);
+        }
+        due.text("the last of ten", c.result(c.main(0, 45, 0, 44, 0, 46, 0, 45, 0, 44, 1, 46, 0, 26, 9, 43, 0)), "0 0 by 109");
+        due.is("all of them are in the image", c.x.image(2), 10);
     }
 
     /** Throws by the code before, with traps that put out 10 and more, and the class test of what they get. */
