@@ -1371,7 +1371,7 @@ public final class PocketMachine {
         }
 
         private int sizeAt(int ref) {
-            return Math.max(HEAD, wordsFor(word(ref), word(ref + PLACES)));
+            return wordsFor(word(ref), word(ref + PLACES));
         }
 
         void beginMarking() {
@@ -1406,7 +1406,7 @@ public final class PocketMachine {
                 }
             }
             int free = FIRST;
-            for (int ref = FIRST; ref < top; ref += sizeAt(ref)) {
+            for (int ref = FIRST; ref < top; ref += Math.max(HEAD, sizeAt(ref))) {
                 if (word(ref + FORWARD) != 0) {
                     setWord(ref + FORWARD, free);
                     free += sizeAt(ref);
@@ -1429,8 +1429,8 @@ public final class PocketMachine {
         /** Moves the marked ones together; the others are gone. */
         void slide() {
             int free = FIRST;
-            int size = 0;
-            for (int ref = FIRST; ref < top; ref += size) {
+            int size = HEAD;
+            for (int ref = FIRST; ref < top; ref += Math.max(HEAD, size)) {
                 size = sizeAt(ref);
                 int to = word(ref + FORWARD);
                 if (to >= FIRST && to <= ref && ref + size <= words.length) {
@@ -1461,7 +1461,7 @@ public final class PocketMachine {
             int end = FIRST;
             for (int ref = FIRST; ref < top && ref < begins.length; ref = end) {
                 begins[ref] = true;
-                end = ref + sizeAt(ref);
+                end = ref + Math.max(HEAD, sizeAt(ref));
             }
             return end == top && used() <= limit && top <= words.length;
         }
@@ -1480,7 +1480,7 @@ public final class PocketMachine {
         }
 
         boolean fieldsLeadWell() {
-            for (int ref = FIRST; ref < top; ref += sizeAt(ref)) {
+            for (int ref = FIRST; ref < top; ref += Math.max(HEAD, sizeAt(ref))) {
                 int first = firstRef(ref);
                 int count = refsIn(ref);
                 for (int i = 0; i < count; i++) {
@@ -1493,26 +1493,34 @@ public final class PocketMachine {
         }
     }
 
-    /** A thread: its methods one in another, each with locals and a stack behind them. */
+    /**
+     * A thread: its methods one in another, each with locals and a stack behind them. Where the innermost
+     * one is stands in fields; the rows keep it for those that wait for a call to return.
+     */
     private static final class Strand {
         static final int ALIVE = 0, RETURNED = 1, FAILED = 2;
+        private static final int SLOTS = DEPTH * FRAME;
 
         int state;
         int failure;
         int depth;
-        final int[] values = new int[DEPTH * FRAME];
+        int routine;
+        int place;
+        final int[] values = new int[SLOTS];
         /** 1 where the value is a reference; always 0 above a stack's top. */
-        final int[] marks = new int[DEPTH * FRAME];
+        final int[] marks = new int[SLOTS];
+        private int bottom;
+        private int height;
         private final int[] routines = new int[DEPTH];
         private final int[] places = new int[DEPTH];
         private final int[] heights = new int[DEPTH];
 
         /** Starts with a method and its first local, and whether that is a reference. */
-        void start(int routine, int place, int value, int mark) {
+        void start(int first, int at, int value, int mark) {
             state = ALIVE;
             failure = 0;
             depth = 0;
-            enter(routine, place);
+            enter(first, at);
             values[0] = value;
             marks[0] = mark;
         }
@@ -1522,40 +1530,46 @@ public final class PocketMachine {
             return depth * FRAME;
         }
 
-        boolean isOpen() {
-            return depth >= 1 && depth <= DEPTH;
-        }
-
-        void enter(int routine, int place) {
+        void enter(int next, int at) {
             if (depth < 0 || depth >= DEPTH) {
                 return;
             }
+            if (depth > 0) {
+                routines[depth - 1] = routine;
+                places[depth - 1] = place;
+                heights[depth - 1] = height;
+            }
             Arrays.fill(values, depth * FRAME, depth * FRAME + FRAME, 0);
             Arrays.fill(marks, depth * FRAME, depth * FRAME + FRAME, 0);
-            routines[depth] = routine;
-            places[depth] = place;
-            heights[depth] = 0;
+            routine = next;
+            place = at;
+            bottom = depth * FRAME + LOCALS;
+            height = 0;
             depth++;
         }
 
         /** Enters a method that takes the topmost values; false: there are too many methods. */
-        boolean enterTaking(int routine, int place, int taken) {
-            if (!within(depth, 1, DEPTH - 1) || !within(taken, 0, heights[depth - 1])) {
+        boolean enterTaking(int next, int at, int taken) {
+            if (!within(depth, 1, DEPTH - 1) || !within(taken, 0, Math.min(height, STACK))) {
                 return false;
             }
-            int caller = depth - 1;
-            heights[caller] -= taken;
-            int from = caller * FRAME + LOCALS + heights[caller];
-            enter(routine, place);
-            System.arraycopy(values, from, values, (caller + 1) * FRAME, taken);
-            System.arraycopy(marks, from, marks, (caller + 1) * FRAME, taken);
+            height -= taken;
+            int from = bottom + height;
+            int to = depth * FRAME;
+            enter(next, at);
+            System.arraycopy(values, from, values, to, taken);
+            System.arraycopy(marks, from, marks, to, taken);
             Arrays.fill(marks, from, from + taken, 0);
             return true;
         }
 
         void leave() {
-            if (depth > 0) {
-                depth--;
+            depth--;
+            if (depth >= 1 && depth <= DEPTH) {
+                routine = routines[depth - 1];
+                place = places[depth - 1];
+                height = heights[depth - 1];
+                bottom = (depth - 1) * FRAME + LOCALS;
             }
         }
 
@@ -1565,30 +1579,15 @@ public final class PocketMachine {
             failure = why;
         }
 
-        int routine() {
-            return isOpen() ? routines[depth - 1] : 0;
-        }
-
-        int place() {
-            return isOpen() ? places[depth - 1] : 0;
-        }
-
-        void moveTo(int place) {
-            if (isOpen()) {
-                places[depth - 1] = place;
-            }
-        }
-
         /** The slot of the value that has so many above it, or BAD. */
         private int slotUnder(int above) {
-            if (!isOpen() || !within(above, 0, heights[depth - 1] - 1)) {
-                return BAD;
-            }
-            return (depth - 1) * FRAME + LOCALS + heights[depth - 1] - 1 - above;
+            int slot = bottom + height - 1 - above;
+            return above >= 0 && above < height && slot < SLOTS ? slot : BAD;
         }
 
         private int slotOfLocal(int l) {
-            return isOpen() && within(l, 0, LOCALS - 1) ? (depth - 1) * FRAME + l : BAD;
+            int slot = bottom - LOCALS + l;
+            return l >= 0 && l < LOCALS && slot >= 0 && slot < SLOTS ? slot : BAD;
         }
 
         int peek(int above) {
@@ -1601,7 +1600,7 @@ public final class PocketMachine {
             if (slot < 0) {
                 return 0;
             }
-            heights[depth - 1]--;
+            height--;
             marks[slot] = 0;
             return values[slot];
         }
@@ -1615,13 +1614,12 @@ public final class PocketMachine {
         }
 
         private void pushMarked(int value, int mark) {
-            if (!isOpen() || !within(heights[depth - 1], 0, STACK - 1)) {
-                return;
+            int slot = bottom + height;
+            if (height >= 0 && height < STACK && slot < SLOTS) {
+                values[slot] = value;
+                marks[slot] = mark;
+                height++;
             }
-            int slot = (depth - 1) * FRAME + LOCALS + heights[depth - 1];
-            values[slot] = value;
-            marks[slot] = mark;
-            heights[depth - 1]++;
         }
 
         void load(int l) {
@@ -1662,14 +1660,11 @@ public final class PocketMachine {
         }
 
         /** Goes on at a handler with nothing but the reference on the stack. */
-        void catchAt(int place, int ref) {
-            if (!isOpen()) {
-                return;
+        void catchAt(int handler, int ref) {
+            for (int n = 0; n < STACK && height > 0; n++) {
+                pop();
             }
-            int bottom = (depth - 1) * FRAME + LOCALS;
-            Arrays.fill(marks, bottom, bottom + STACK, 0);
-            heights[depth - 1] = 0;
-            places[depth - 1] = place;
+            place = handler;
             pushMarked(ref, 1);
         }
     }
@@ -1724,20 +1719,17 @@ public final class PocketMachine {
 
         /** Whether a thread's next instruction can be done now. */
         boolean canGo(int t) {
-            return isStrand(t) && strands[t].state == Strand.ALIVE && !waits(t);
+            return isStrand(t) && strands[t].state == Strand.ALIVE && !waits(strands[t], t + 1);
         }
 
-        boolean waits(int t) {
-            if (!isStrand(t) || strands[t].state != Strand.ALIVE) {
+        /** Whether the next instruction enters a monitor that is not this owner's. */
+        private boolean waits(Strand s, int owner) {
+            if (image.at(s.place) != ENTER) {
                 return false;
             }
-            Strand s = strands[t];
             int ref = s.peek(0);
-            if (image.at(s.place()) != ENTER || ref == 0) {
-                return false;
-            }
-            int owner = memory.ownerOf(ref);
-            return owner != 0 && owner != t + 1;
+            int now = ref == 0 ? 0 : memory.ownerOf(ref);
+            return now != 0 && now != owner;
         }
 
         /** Does the next instruction of a thread that can go. */
@@ -1747,10 +1739,12 @@ public final class PocketMachine {
                 return;
             }
             Strand s = strands[t];
-            int at = s.place();
+            int at = s.place;
             int op = image.at(at);
             int outcome;
-            if (within(op, ADD, RIGHT_UNSIGNED)) {
+            if (op <= STORE) {
+                outcome = doPlain(s, op, at + 1);
+            } else if (op <= RIGHT_UNSIGNED) {
                 outcome = doArithmetic(s, op);
             } else if (jumps(op)) {
                 outcome = doJump(s, op, at);
@@ -1777,7 +1771,7 @@ public final class PocketMachine {
                 outcome = doPlain(s, op, at + 1);
             }
             if (outcome == GOES_ON) {
-                s.moveTo(at + bytesOf(op));
+                s.place = at + bytesOf(op);
             } else if (outcome > GOES_ON) {
                 raise(s, outcome);
             }
@@ -1837,7 +1831,7 @@ public final class PocketMachine {
             if (!jumpsNow(s, op)) {
                 return GOES_ON;
             }
-            s.moveTo(image.codeAt(s.routine()) + image.two(at + 1));
+            s.place = image.codeAt(s.routine) + image.two(at + 1);
             return MOVED;
         }
 
@@ -1986,7 +1980,7 @@ public final class PocketMachine {
                 s.finish(Strand.RETURNED, 0);
                 return MOVED;
             }
-            s.moveTo(s.place() + bytesOf(CALL));
+            s.place += bytesOf(CALL);
             if (op == RETURN_INT) {
                 s.push(value);
             } else if (op == RETURN_REF) {
@@ -2047,7 +2041,7 @@ public final class PocketMachine {
         private void raise(Strand s, int fault) {
             int ref = fault == THROWN ? thrown : 0;
             thrownKind = memory.kindOf(ref);
-            for (int n = 0; n < DEPTH && s.isOpen(); n++) {
+            for (int n = 0; n < DEPTH && s.depth > 0; n++) {
                 int handler = handlerFor(s, fault);
                 if (handler != BAD) {
                     s.catchAt(handler, ref);
@@ -2063,9 +2057,9 @@ public final class PocketMachine {
         }
 
         private int handlerFor(Strand s, int fault) {
-            int head = image.headAt(s.routine());
-            int codeAt = image.codeAt(s.routine());
-            int offset = s.place() - codeAt;
+            int head = image.headAt(s.routine);
+            int codeAt = image.codeAt(s.routine);
+            int offset = s.place - codeAt;
             int traps = image.at(head + METHOD_BYTES - 1);
             for (int t = 0; t < traps && t < TRAPS; t++) {
                 int at = head + METHOD_BYTES + TRAP_BYTES * t;
@@ -2093,7 +2087,7 @@ public final class PocketMachine {
             switch (what) {
                 case 0:
                     if (s.state == Strand.ALIVE) {
-                        return waits(t) ? 1 : 0;
+                        return waits(s, t + 1) ? 1 : 0;
                     }
                     return s.state == Strand.RETURNED ? 2 : 3;
                 case 1: return s.depth;
