@@ -2,6 +2,8 @@
 final class Due {
     private static final int PRINTED = 40;
     private final String title;
+    private String sentence = "";
+    private int sentences;
     private int asked;
     private int wrong;
 
@@ -9,12 +11,18 @@ final class Due {
         this.title = title;
     }
 
+    /** The words of ../shared/DOC.md that the next answers are about. */
+    void sentence(String words) {
+        sentence = " [" + words + "]";
+        sentences++;
+    }
+
     void is(String call, long got, long want) {
         asked++;
         if (got != want) {
             wrong++;
             if (wrong <= PRINTED) {
-                System.out.println(title + ": " + call + " answered " + got + ", due is " + want);
+                System.out.println(title + ": " + call + " answered " + got + ", due is " + want + sentence);
             }
         }
     }
@@ -32,7 +40,8 @@ final class Due {
     }
 
     void end() {
-        System.out.println(title + ": " + asked + " answers, " + wrong + " of them wrong");
+        String about = sentences > 0 ? " about " + sentences + " sentences" : "";
+        System.out.println(title + ": " + asked + " answers" + about + ", " + wrong + " of them wrong");
         if (wrong != 0) {
             System.exit(1);
         }
