@@ -30,6 +30,8 @@ public final class ImageEdgesTest {
         targets();
         fieldNumbers();
         othersNothing();
+        everyLength();
+        longest();
         due.end();
     }
 
@@ -654,5 +656,67 @@ public final class ImageEdgesTest {
         b.met(0, NONE, 0, 0, 2, 1, 45, 9, 42, 9);
         int length = b.x.link(b.main(0, 26, 0, 48, 9, 38, 1, 17, 9, 40, 9));
         due.text("41, 42, 48", first(b, length - 11, 11), "47 41 45 42 26 0 48 38 1 17 40");
+    }
+
+    /** What each instruction takes, and how many bytes it has. */
+    private static final String[] TAKEN = {
+        "", "", "", "I", "II", "II", "II", "II", "II", "I", "II", "II", "II", "II", "II", "II", "I", "I", "II", "",
+        "I", "I", "I", "R", "RR", "II", "", "R", "RI", "R", "RR", "I", "RI", "RII", "R", "I", "RI", "RIR", "", "R",
+        "", "I", "R", "R", "R", "", "I", "", "R", "R", "R", "", "", "I", "", "R"};
+    private static final int[] BYTES = {
+        1, 2, 2, 2, 1, 1, 1, 1, 1, 1, 1, 1, 1, 1, 1, 1, 1, 1, 1, 3, 3, 3, 3, 3, 3, 3, 2, 3, 3, 3, 3, 1, 1, 1, 1, 1, 1, 1,
+        2, 2, 1, 1, 1, 1, 2, 1, 1, 1, 1, 1, 1, 1, 2, 2, 2, 2};
+
+    private static void everyLength() {
+        due.sentence("2 how long that is");
+        for (int op = 0; op <= 55; op++) {
+            Bench b = new Bench();
+            b.cls(BAD, 6, 6);
+            b.met(0, 0, 0, 0, 0, 1, 40, 0);
+            b.met(0, NONE, 0, 0, op == 41 || op == 42 ? op - 40 : 0, 1, 45, 0, 3, 0);
+            for (int i = 0; i < TAKEN[op].length(); i++) {
+                b.x.code(TAKEN[op].charAt(i) == 'I' ? 47 : 45, 0);
+            }
+            // Local 0 is set; the one behind goes to itself, and so does a jump.
+            int next = 2 + TAKEN[op].length() + 1;
+            boolean jumps = op >= 19 && op <= 25;
+            b.x.code(op, jumps ? next : op == 38 ? 2 : 0);
+            b.x.code(19, next);
+            b.met(0, NONE, 0, 0, 0, 0, 40, 0);
+            due.yes(op + " links", b.x.link(1) > 0);
+            int head = 9 + 11 * b.x.image(2) + 9 * b.x.image(4);
+            int behind = op >= 40 && op <= 43 ? 1 : 3;
+            due.is("with " + op, b.x.image(head + 2) * 256 + b.x.image(head + 3),
+                    1 + 2 + TAKEN[op].length() + BYTES[op] + behind);
+        }
+    }
+
+    /** As long as one can be: only 23 calls are shorter than three bytes, and every method has six traps. */
+    private static void longest() {
+        due.sentence("THE IMAGE");
+        Bench b = new Bench();
+        for (int c = 0; c < 10; c++) {
+            b.cls(c - 1, 6, 6);
+        }
+        for (int m = 0; m < 24; m++) {
+            b.main(12);
+            for (int i = 0; i < 57; i++) {
+                b.x.code(m == 0 && i < 23 ? 38 : 19, i + 1);
+            }
+            b.x.code(19, 0);
+            b.x.code(23, 59);
+            b.x.code(19, 0);
+            for (int t = 0; t < 6; t++) {
+                b.x.trap(t, 57, 58, t == 0 ? 9 : -t);
+            }
+        }
+        int length = 9 + 10 * 11 + 24 * (9 + 6 * 7 + 180) - 23;
+        due.is("its length", b.x.link(0), length);
+        due.is("in bytes 5 and 6", b.x.image(5) * 256 + b.x.image(6), length);
+        due.is("its last byte but two", b.x.image(length - 3), 19);
+        due.is("none behind the last", b.x.image(length), BAD);
+        due.is("where the last code is", b.x.image(9 + 110 + 23 * 51) * 256 + b.x.image(9 + 110 + 23 * 51 + 1), length - 180);
+        due.yes("it boots", b.x.boot(50, 50));
+        due.is("it runs", b.x.run(100), 100);
     }
 }

@@ -308,6 +308,24 @@ public final class InstructionEdgesTest {
         }
         b.x.code(40, 0);
         due.text("the first and the last of a class and of the one above", b.result(m), "10 0 11 12 0 13");
+        due.sentence("29, 30 so for reference fields (R, puts R; R R).");
+        Bench c = bench();
+        int n = c.main(1, 26, 2, 3, 0);
+        int[] refs = {0, 1, 5, 8, 12, 13};
+        for (int i = 0; i < refs.length; i++) {
+            int[] code = {2, 0, 1, 10 + i, 31, 0, 30, refs[i]};
+            for (int k = 0; k < code.length; k += 2) {
+                c.x.code(code[k], code[k + 1]);
+            }
+        }
+        for (int o : refs) {
+            c.x.code(2, 0);
+            c.x.code(29, o);
+            c.x.code(34, 0);
+            c.x.code(46, 0);
+        }
+        c.x.code(40, 0);
+        due.text("references have their own places", c.result(n), "10 11 12 13 14 15");
         due.text("whole ints", result(26, 0, 3, 0, 2, 0, 1, 1, 1, 31, 13, 0, 28, 5, 2, 0, 27, 5, 46, 0,
                 2, 0, 1, -1, 28, 5, 2, 0, 27, 5, 46, 0, 40, 0), "-2147483648 -1");
     }

@@ -23,6 +23,7 @@ public final class MemoryEdgesTest {
         chains();
         noInt();
         movedTogether();
+        movedEverywhere();
         soundWithoutBoot();
         soundWhenFull();
         toldNumbers();
@@ -235,6 +236,9 @@ public final class MemoryEdgesTest {
         due.is("nine", left(0, 26, 1, 45, 0, 1, 5, 45, 0, 1, 5, 45, 0, 1, 5, 45, 0, 26, 1), 16);
         due.is("dropped", left(0, 26, 1, 17, 0), 0);
         due.is("changed about", left(0, 26, 1, 1, 1, 18, 0, 17, 0), 0);
+        due.is("a reference that an int was changed about with", left(0, 26, 1, 1, 5, 18, 0), 8);
+        due.is("an int that a reference was changed about with", left(0, 1, 5, 26, 1, 18, 0), 8);
+        due.is("two references that were changed about", left(0, 26, 0, 26, 1, 18, 0, 17, 0), 8);
         due.is("twice, one dropped", left(0, 26, 1, 16, 0, 17, 0), 8);
         due.is("taken by 23", left(0, 26, 1, 23, 2), 0);
         due.is("taken by 24", left(0, 26, 1, 26, 1, 24, 3), 0);
@@ -404,6 +408,53 @@ public final class MemoryEdgesTest {
         run(c, n, 18 + 8 * 14);
         due.text("and each is found where it is", c.outs(), "60 61 62 63");
         due.is("one collection", c.x.told(6), 1);
+    }
+
+    /** Two of 14 bytes go before what is kept, so that all of it moves; then it is read where it is kept. */
+    private static String moved(String name, int... code) {
+        Bench b = bench();
+        b.met(1, 0, 0, 0, 0, 1, 40, 0);
+        int dropped = b.main(0, 26, 0, 17, 0, 26, 0, 17, 0, 40, 0);
+        // Takes a reference to an object of class 0, gives it back with 77 in its field.
+        b.met(0, NONE, 1, 1, 2, 1, 2, 0, 1, 77, 28, 0, 2, 0, 42, 0);
+        int collects = b.main(0, 1, 25, 31, 0, 17, 0, 40, 0);
+        due.is("a method's number", dropped, 1);
+        due.is("a method's number", collects, 3);
+        run(b, b.main(12, code), 150);
+        due.is(name + ": one collection", b.x.told(6), 1);
+        return b.outs() + (b.x.thread(0, 2) == 0 ? "" : "by " + b.x.thread(0, 2));
+    }
+
+    private static void movedEverywhere() {
+        due.sentence("Whether every reference that is there, in statics, locals, on stacks, in fields of objects that are there");
+        due.text("static 0", moved("static", 38, 1, 26, 0, 38, 2, 55, 0, 38, 3, 54, 0, 27, 0, 46, 0, 40, 0), "77");
+        due.text("static 7", moved("static", 38, 1, 26, 0, 38, 2, 55, 7, 38, 3, 54, 7, 27, 0, 46, 0, 40, 0), "77");
+        due.text("local 0", moved("local", 38, 1, 26, 0, 38, 2, 3, 0, 38, 3, 2, 0, 27, 0, 46, 0, 40, 0), "77");
+        due.text("local 11", moved("local", 38, 1, 26, 0, 38, 2, 3, 11, 38, 3, 2, 11, 27, 0, 46, 0, 40, 0), "77");
+        due.text("the lowest on the stack", moved("stack", 38, 1, 26, 0, 38, 2, 38, 3, 27, 0, 46, 0, 40, 0), "77");
+        due.text("the tenth on the stack", moved("stack", 38, 1, 1, 1, 1, 2, 1, 3, 1, 4, 1, 5, 1, 6, 1, 7, 1, 8, 1, 9,
+                26, 0, 38, 2, 38, 3, 27, 0, 46, 0, 46, 0, 40, 0), "77 9");
+        due.text("a field", moved("field", 38, 1, 26, 0, 3, 0, 2, 0, 26, 0, 38, 2, 30, 0, 38, 3,
+                2, 0, 29, 0, 27, 0, 46, 0, 40, 0), "77");
+        due.text("the first place", moved("place", 38, 1, 1, 3, 35, 0, 3, 0, 2, 0, 1, 0, 26, 0, 38, 2, 37, 0, 38, 3,
+                2, 0, 1, 0, 36, 0, 27, 0, 46, 0, 40, 0), "77");
+        due.text("the last place", moved("place", 38, 1, 1, 3, 35, 0, 3, 0, 2, 0, 1, 2, 26, 0, 38, 2, 37, 0, 38, 3,
+                2, 0, 1, 2, 36, 0, 27, 0, 46, 0, 40, 0), "77");
+        due.text("two that are the same stay so", moved("same", 38, 1, 26, 0, 38, 2, 16, 0, 55, 3, 3, 5, 38, 3,
+                54, 3, 2, 5, 24, 12, 40, 0, 40, 0, 1, 6, 46, 0, 40, 0), "6");
+        due.text("null stays null", moved("null", 38, 1, 45, 0, 3, 0, 26, 0, 3, 1, 26, 0, 17, 0, 38, 3, 2, 0, 23, 12, 40, 0,
+                40, 0, 1, 6, 46, 0, 40, 0), "6");
+        due.text("a monitor stays entered", moved("monitor", 38, 1, 26, 0, 3, 0, 2, 0, 49, 0, 38, 3, 2, 0, 50, 0,
+                2, 0, 50, 0, 40, 0), "by -8");
+        Bench b = bench();
+        // Six threads, each with an object in a local and one on the stack; what lay before them goes.
+        b.met(0, 0, 0, 0, 0, 2, 26, 0, 3, 1, 2, 1, 2, 0, 27, 0, 28, 0, 2, 1, 51, 0, 27, 0, 46, 0, 2, 1, 27, 0, 46, 0, 40, 0);
+        int begin = b.met(0, NONE, 1, 0, 0, 2, 26, 0, 3, 1, 2, 1, 2, 0, 28, 0, 2, 1, 48, 0, 40, 0);
+        int m = b.main(0, 26, 0, 17, 0, 1, 1, 38, begin, 1, 2, 38, begin, 1, 3, 38, begin, 1, 4, 38, begin, 1, 5, 38, begin,
+                51, 0, 1, 1, 31, 0, 17, 0, 40, 0);
+        run(b, m, 11 * 14);
+        due.text("those of five threads more", b.outs(), "1 1 2 2 3 3 4 4 5 5");
+        due.is("one collection", b.x.told(6), 1);
     }
 
     private static void soundWithoutBoot() {

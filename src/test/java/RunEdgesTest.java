@@ -9,6 +9,8 @@ public final class RunEdgesTest {
         noImage();
         refusedBoots();
         bootingAnew();
+        bootingInATurn();
+        bootingBehindAnException();
         inputBeforeBoot();
         hundredInputs();
         inputsGoRound();
@@ -110,6 +112,41 @@ public final class RunEdgesTest {
             due.text("statics are 0 and null", b.outs(), "0 0 5");
             due.is("an input is left", b.x.told(8), 1);
         }
+    }
+
+    private static void bootingInATurn() {
+        due.sentence("The image that was linked last begins to run: one thread with main");
+        for (int done : new int[] {1, 5, 17, 60, 110}) {
+            Bench fresh = three(5);
+            fresh.x.run(300);
+            Bench b = three(50);
+            b.x.run(done);
+            due.yes("boot", b.x.boot(5, 100));
+            b.x.run(300);
+            due.text("its first turn is a whole one behind " + done, b.outs(), fresh.outs());
+            Bench c = three(3);
+            c.x.run(done);
+            c.x.boot(50, 100);
+            c.x.run(50);
+            due.text("and a long one", c.outs(), "0 0 0 0 0 0 0 0 0");
+        }
+    }
+
+    private static void bootingBehindAnException() {
+        due.sentence("The image that was linked last begins to run: one thread with main");
+        Bench b = bench();
+        b.x.link(b.main(0, 47, 0, 22, 4, 45, 0, 43, 0, 40, 0));
+        b.x.boot(5, 50);
+        b.x.run(9);
+        due.is("ended by null", b.x.thread(0, 2), -1);
+        b.x.boot(5, 50);
+        due.is("it goes on", b.x.thread(0, 0), 0);
+        due.is("with main", b.x.thread(0, 1), 1);
+        due.is("no exception", b.x.thread(0, 2), 0);
+        b.x.input(1);
+        b.x.run(9);
+        due.is("ended by its return", b.x.thread(0, 0), 2);
+        due.is("no exception", b.x.thread(0, 2), 0);
     }
 
     private static void inputBeforeBoot() {

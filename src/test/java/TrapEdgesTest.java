@@ -6,6 +6,7 @@ public final class TrapEdgesTest {
     public static void main(String[] args) {
         ranges();
         longOffsets();
+        noMoreTraps();
         whatFits();
         classesThatFit();
         firstThatFits();
@@ -78,6 +79,22 @@ public final class TrapEdgesTest {
         b.x.trap(56, 60, 57, -1);
         due.text("behind 165 bytes", b.result(m), "");
         due.is("instructions", b.x.told(3), 59);
+    }
+
+    private static void noMoreTraps() {
+        due.sentence("how many traps; then for each trap 2 bytes a, b, handler each");
+        Bench b = bench();
+        // Its first bytes, 0 0 0 45 0 17 0, would be a trap of class 0 up to 45 with a handler at 17.
+        int m = b.main(0, 0, 0, 0, 0, 0, 0, 45, 0, 0, 0, 17, 0, 0, 0, 26, 0, 43, 0, 0, 0, 0, 0, 0, 0, 0, 0, 0, 0, 0, 0,
+                0, 0, 40, 0);
+        due.text("a method without traps", b.result(m), " by 100");
+        due.is("what it does", b.x.told(3), 9);
+        Bench c = bench();
+        int n = c.main(0, 0, 0, 0, 0, 0, 0, 45, 0, 0, 0, 17, 0, 0, 0, 26, 0, 43, 0, 40, 0, 17, 0, 40, 0);
+        for (int t = 0; t < 6; t++) {
+            c.x.trap(0, 1, 10, -1);
+        }
+        due.text("a method with six that do not fit", c.result(n), " by 100");
     }
 
     /** For exception k: something that meets it as its last instruction. */

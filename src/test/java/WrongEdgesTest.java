@@ -21,6 +21,7 @@ public final class WrongEdgesTest {
         returns();
         statics();
         emptyStacks();
+        whatIsPut();
         atTheBeginning();
         moreThanTen();
         stillTen();
@@ -32,6 +33,8 @@ public final class WrongEdgesTest {
         lowestFirst();
         handlersFirst();
         ownHandler();
+        rangeOfATrap();
+        nothingIsLeftOfTheLastLook();
         due.end();
     }
 
@@ -243,6 +246,12 @@ public final class WrongEdgesTest {
                 due.is(a + " arguments", wrong(b, b.main(0, 45, 0, 48, 0, 40, 0)), a == 0 ? FINE : 1);
             }
         }
+        Bench d = new Bench();
+        d.cls(BAD, 0, 0);
+        d.met(0, 0, 0, 0, 0, 1, 40, 0);
+        due.is("48 of an int", wrong(d, d.main(0, 1, 0, 48, 0, 40, 0)), 1);
+        due.is("48 of nothing", wrong(d, d.main(0, 48, 0, 40, 0)), 0);
+        due.is("48 puts nothing", wrong(d, d.main(0, 45, 0, 48, 0, 17, 0, 40, 0)), 2);
         Bench c = new Bench();
         c.cls(BAD, 0, 0);
         c.met(0, 1, 0, 0, 0, 1, 40, 0);
@@ -262,6 +271,14 @@ public final class WrongEdgesTest {
         due.is("41 of nothing", wrongOfInt(41, 0), 0);
         due.is("41 with values under it", wrongOfInt(45, 0, 1, 0, 41, 0), FINE);
         due.is("40 with values left", wrong(45, 0, 1, 0, 40, 0), FINE);
+        due.is("42 of an int", wrongOfRef(1, 0, 42, 0), 1);
+        due.is("42 of nothing", wrongOfRef(42, 0), 0);
+        due.is("42 with values under it", wrongOfRef(1, 0, 45, 0, 42, 0), FINE);
+    }
+
+    private static int wrongOfRef(int... code) {
+        Bench b = bench();
+        return wrong(b, b.met(0, NONE, 0, 0, 2, 0, code));
     }
 
     private static int wrongOfInt(int... code) {
@@ -316,6 +333,49 @@ public final class WrongEdgesTest {
         code[2 * kinds.length()] = op;
         code[2 * kinds.length() + 1] = op >= 19 && op <= 25 ? kinds.length() + 1 : operand;
         code[2 * kinds.length() + 2] = 40;
+        return wrong(code);
+    }
+
+    /** What each instruction leaves of the values that it takes, the last one on top. */
+    private static final String[] LEAVES = {
+        "0::", "1::I", "3:I:", "4:II:I", "5:II:I", "6:II:I", "7:II:I", "8:II:I", "9:I:I", "10:II:I", "11:II:I", "12:II:I",
+        "13:II:I", "14:II:I", "15:II:I", "16:I:II", "16:R:RR", "17:I:", "17:R:", "18:IR:RI", "18:RI:IR", "20:I:", "21:I:",
+        "22:I:", "23:R:", "24:RR:", "25:II:", "26::R", "27:R:I", "28:RI:", "29:R:R", "30:RR:", "31:I:R", "32:RI:I",
+        "33:RII:", "34:R:I", "35:I:R", "36:RI:R", "37:RIR:", "38::R", "39:RR:I", "44:R:I", "45::R", "46:I:", "47::I",
+        "49:R:", "50:R:", "51::", "52::I", "53:I:", "54::R", "55:R:"};
+
+    private static void whatIsPut() {
+        due.sentence("(last ones named on top; I an int, R a reference, X either)");
+        for (String row : LEAVES) {
+            String[] parts = row.split(":", -1);
+            int op = Integer.parseInt(parts[0]);
+            int operand = op == 39 ? 5 : op == 38 ? 1 : 0;
+            String right = parts[2];
+            due.is(row, leaves(parts[1], op, operand, right), FINE);
+            int at = parts[1].length() + 1;
+            due.is(row + " and no more", leaves(parts[1], op, operand, "I" + right), at + right.length());
+            for (int i = 0; i < right.length(); i++) {
+                char other = right.charAt(i) == 'I' ? 'R' : 'I';
+                String spoilt = right.substring(0, i) + other + right.substring(i + 1);
+                due.is(row + " and not " + spoilt, leaves(parts[1], op, operand, spoilt), at + right.length() - 1 - i);
+            }
+        }
+    }
+
+    /** Puts these, does the instruction, and takes those from the top on by 46 and 49. */
+    private static int leaves(String kinds, int op, int operand, String then) {
+        int[] code = new int[2 * (kinds.length() + then.length()) + 4];
+        int at = 0;
+        for (int i = 0; i < kinds.length(); i++, at += 2) {
+            code[at] = kinds.charAt(i) == 'I' ? 1 : 45;
+        }
+        code[at] = op;
+        code[at + 1] = op >= 19 && op <= 25 ? at / 2 + 1 : operand;
+        at += 2;
+        for (int i = then.length() - 1; i >= 0; i--, at += 2) {
+            code[at] = then.charAt(i) == 'I' ? 46 : 49;
+        }
+        code[at] = 40;
         return wrong(code);
     }
 
@@ -554,5 +614,57 @@ public final class WrongEdgesTest {
         int q = f.main(0, 40, 0, 17, 0, 40, 0);
         f.x.trap(1, 3, 0, -1);
         due.is("a trap of instructions that no one comes to", wrong(f, q), FINE);
+    }
+
+    private static void rangeOfATrap() {
+        due.sentence("first the handlers of its traps, in order, are COME TO");
+        // The handler is wrong if it is come to at all: 2 of a local that is not set.
+        for (int from = 0; from < 4; from++) {
+            for (int to = from + 1; to <= 4; to++) {
+                Bench b = bench();
+                int m = b.main(1, 19, 2, 0, 0, 0, 0, 40, 0, 2, 0, 40, 0);
+                b.x.trap(from, to, 4, -1);
+                // Of the first four, 0, 2 and 3 are looked at, 1 is not.
+                boolean looked = from != 1 || to > 2;
+                due.is("from " + from + " to " + to, wrong(b, m), looked ? 4 : FINE);
+            }
+        }
+        Bench c = bench();
+        int n = c.main(1, 1, 0, 3, 0, 0, 0, 45, 0, 3, 0, 40, 0, 17, 0, 2, 0, 46, 0, 40, 0);
+        c.x.trap(2, 5, 6, -1);
+        due.is("up to before the one behind which the local is another", wrong(c, n), FINE);
+        Bench d = bench();
+        int o = d.main(1, 1, 0, 3, 0, 0, 0, 45, 0, 3, 0, 40, 0, 17, 0, 2, 0, 46, 0, 40, 0);
+        d.x.trap(2, 6, 6, -1);
+        due.is("and with it", wrong(d, o), 7);
+        Bench e = bench();
+        int p = e.main(1, 1, 0, 3, 0, 0, 0, 40, 0, 17, 0, 2, 0, 46, 0, 40, 0);
+        e.x.trap(2, 4, 4, -1);
+        due.is("from the one at which the local is set", wrong(e, p), FINE);
+        Bench f = bench();
+        int q = f.main(1, 1, 0, 3, 0, 0, 0, 40, 0, 17, 0, 2, 0, 46, 0, 40, 0);
+        f.x.trap(1, 4, 4, -1);
+        due.is("from the one that sets it", wrong(f, q), 5);
+    }
+
+    private static void nothingIsLeftOfTheLastLook() {
+        due.sentence("from instruction 0 on (stack empty; what the method takes in its first locals, others not set)");
+        Bench b = bench();
+        // 2 is wrong while 5 waits to be looked at.
+        int spoilt = b.main(12, 47, 0, 20, 5, 4, 0, 0, 0, 0, 0, 40, 0);
+        int small = b.main(12, 0, 0, 40, 0);
+        due.is("a wrong one", wrong(b, spoilt), 2);
+        due.is("a shorter one behind it", wrong(b, small), FINE);
+        due.is("a wrong one again", wrong(b, spoilt), 2);
+        int sets = b.main(12, 1, 0, 3, 0, 1, 0, 3, 11, 38, 5 + 1, 40, 0);
+        due.is("which method that is", sets, 4);
+        int puts = b.main(12, 2, 0, 17, 0, 40, 0);
+        due.is("the local that another method has set", wrong(b, puts), 0);
+        b.main(12, 2, 11, 17, 0, 40, 0);
+        due.is("when that is looked at before it", b.x.link(sets), -1000 - 100 * 6);
+        int leaves = b.main(12, 45, 0, 45, 0, 45, 0, 38, 8, 40, 0);
+        due.is("which method that is", leaves, 7);
+        b.main(12, 17, 0, 40, 0);
+        due.is("values that another method left", b.x.link(leaves), -1000 - 100 * 8);
     }
 }
