@@ -29,6 +29,41 @@ final class Bench {
         return text.toString();
     }
 
+    int[] bytes() {
+        int[] bytes = new int[x.told(2)];
+        for (int i = 0; i < bytes.length; i++) {
+            bytes[i] = x.image(i);
+        }
+        return bytes;
+    }
+
+    /** Feeds the bytes, and asks what they are. */
+    int checked(int... bytes) {
+        for (int b : bytes) {
+            x.feed(b);
+        }
+        return x.check();
+    }
+
+    /** Of every thread what can be asked: its state, its methods one in another, its exception. */
+    String threads() {
+        StringBuilder text = new StringBuilder();
+        for (int t = 0; t < x.told(4); t++) {
+            text.append(t == 0 ? "" : " ").append(x.thread(t, 0)).append('/').append(x.thread(t, 1));
+            text.append('/').append(x.thread(t, 2));
+        }
+        return text.toString();
+    }
+
+    /** All that can be asked of what runs. */
+    String state() {
+        StringBuilder text = new StringBuilder(threads());
+        for (int what = 3; what <= 8; what++) {
+            text.append(what == 3 ? " told " : " ").append(x.told(what));
+        }
+        return text.append(x.sound() ? " sound " : " unsound ").append(outs()).toString();
+    }
+
     /** The ints that went out. */
     String outs() {
         StringBuilder text = new StringBuilder();

@@ -1,7 +1,14 @@
+import java.io.IOException;
+import java.io.UncheckedIOException;
+import java.nio.file.Files;
+import java.nio.file.Path;
+
 /** Compares answers with those that are due, prints the ones that differ, and ends with exit code 1 if there were any. */
 final class Due {
+    private static final Path DOCUMENT = Path.of("../shared/DOC.md");
     private static final int PRINTED = 40;
     private final String title;
+    private String document = "";
     private String sentence = "";
     private int sentences;
     private int asked;
@@ -11,10 +18,29 @@ final class Due {
         this.title = title;
     }
 
-    /** The words of ../shared/DOC.md that the next answers are about. */
+    /** The words of ../shared/DOC.md that the next answers are about; they must stand there. */
     void sentence(String words) {
         sentence = " [" + words + "]";
         sentences++;
+        yes("the document has these words", document().contains(words));
+    }
+
+    /** Two sentences that meet in the next answers. */
+    void meeting(String words, String others) {
+        sentence(words);
+        sentence(others);
+        sentence = " [" + words + "] with [" + others + "]";
+    }
+
+    private String document() {
+        if (document.isEmpty()) {
+            try {
+                document = Files.readString(DOCUMENT);
+            } catch (IOException e) {
+                throw new UncheckedIOException(e);
+            }
+        }
+        return document;
     }
 
     void is(String call, long got, long want) {

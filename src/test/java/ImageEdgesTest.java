@@ -21,6 +21,7 @@ public final class ImageEdgesTest {
         superAndFields();
         methodsByName();
         whereCodeIs();
+        codesInOrder();
         headOfAMethod();
         mostValues();
         traps();
@@ -452,6 +453,21 @@ public final class ImageEdgesTest {
         }
         due.is("60 instructions of 3", c.x.link(longest), 18 + 180);
         due.text("how long", first(c, 9, 4), "0 18 0 180");
+    }
+
+    private static void codesInOrder() {
+        due.meeting("Then the codes.", "any other one its number");
+        Bench b = bench();
+        b.main(0, 38, 2, 38, 1, 40, 0);
+        b.main(0, 0, 0, 40, 0);
+        b.main(0, 45, 0, 17, 0, 51, 0, 40, 0);
+        b.main(0, 17, 0);
+        int length = b.x.link(0);
+        due.is("three heads, codes of 5, 2 and 4", length, 9 + 27 + 11);
+        due.text("in the order of the methods", first(b, 36, 11), "38 2 38 1 40 0 40 45 17 51 40");
+        for (int m = 0; m < 3; m++) {
+            due.text("where it is", first(b, 9 + 9 * m, 4), "0 " + (m == 0 ? 36 : m == 1 ? 41 : 43) + " 0 " + (m == 0 ? 5 : m == 1 ? 2 : 4));
+        }
     }
 
     private static void headOfAMethod() {

@@ -5,6 +5,7 @@ public final class InstructionEdgesTest {
     private static final Due due = new Due("instruction edges");
 
     public static void main(String[] args) {
+        nothing();
         constants();
         localsAndStack();
         wrapAround();
@@ -13,6 +14,7 @@ public final class InstructionEdgesTest {
         negative();
         bits();
         shifts();
+        targets();
         onlyNought();
         onlyNull();
         same();
@@ -25,6 +27,8 @@ public final class InstructionEdgesTest {
         arrayIndexes();
         lengths();
         staticCalls();
+        argumentsThatAreReferences();
+        returns();
         callsByName();
         throwing();
         classTests();
@@ -65,6 +69,15 @@ public final class InstructionEdgesTest {
         }
         b.x.run(9);
         return b.outs() + (b.x.thread(0, 2) == 0 ? "" : "by " + b.x.thread(0, 2));
+    }
+
+    private static void nothing() {
+        due.sentence("0 nothing.");
+        due.text("alone", result(0, 0, 40, 0), "");
+        due.text("between others, with any operand", result(0, MIN, 1, 5, 0, -1, 0, MAX, 46, 0, 0, 77, 40, 0), "5");
+        due.sentence("45 puts null.");
+        due.text("it is null", result(45, 0, 23, 4, 1, 0, 46, 0, 1, 1, 46, 0, 40, 0), "1");
+        due.text("each is the same", result(45, 0, 45, 0, 24, 5, 1, 0, 46, 0, 1, 1, 46, 0, 40, 0), "1");
     }
 
     private static void constants() {
@@ -196,6 +209,16 @@ public final class InstructionEdgesTest {
         }
         b.x.run(9);
         return b.x.told(7) == 0;
+    }
+
+    private static void targets() {
+        due.sentence("19 goes to target o.");
+        due.text("forwards", result(19, 3, 1, 1, 46, 0, 1, 2, 46, 0, 40, 0), "2");
+        due.text("to the next one", result(19, 1, 1, 2, 46, 0, 40, 0), "2");
+        due.text("backwards", result(19, 4, 1, 3, 46, 0, 40, 0, 1, 2, 46, 0, 19, 1), "2 3");
+        due.text("to the last one", result(1, 1, 19, 4, 46, 0, 40, 0, 40, 0), "");
+        due.text("to itself", result(1, 1, 46, 0, 19, 2), "1 state 0");
+        due.text("to the first one", result(47, 0, 46, 0, 52, 0, 22, 8, 1, 1, 53, 0, 19, 0, 0, 0, 40, 0), "0 0");
     }
 
     private static void onlyNought() {
@@ -429,6 +452,49 @@ public final class InstructionEdgesTest {
         int n = c.main(0, 45, 0, 45, 0, 45, 0, 45, 0, 45, 0, 45, 0, 45, 0, 45, 0, 45, 0, 45, 0, 38, takes, 38, takes,
                 24, 15, 40, 0, 0, 0, 1, 6, 46, 0, 40, 0);
         due.text("four references of ten values, twice", c.result(n), "6");
+    }
+
+    private static void argumentsThatAreReferences() {
+        due.sentence("how many ARGUMENTS (0 .. 4), which of them are references (bits)");
+        for (int references = 0; references < 16; references++) {
+            Bench b = bench();
+            StringBuilder want = new StringBuilder();
+            int m = b.met(0, NONE, 4, references, 0, 4);
+            for (int a = 0; a < 4; a++) {
+                boolean reference = (references >> a & 1) == 1;
+                b.x.code(2, a);
+                b.x.code(reference ? 44 : 0, 3);
+                b.x.code(46, 0);
+                want.append(a == 0 ? "" : " ").append(reference ? 1 : 10 + a);
+            }
+            b.x.code(40, 0);
+            int main = b.main(0);
+            for (int a = 0; a < 4; a++) {
+                boolean reference = (references >> a & 1) == 1;
+                b.x.code(reference ? 26 : 1, reference ? 3 : 10 + a);
+            }
+            b.x.code(38, m);
+            b.x.code(40, 0);
+            due.text("references " + references, b.result(main), want.toString());
+        }
+    }
+
+    private static void returns() {
+        due.sentence("40, 41, 42 return nothing, I, R.");
+        for (int returns = 0; returns <= 2; returns++) {
+            Bench b = bench();
+            // More values than it returns lie on its stack: they are gone.
+            b.met(0, NONE, 0, 0, returns, 0, 1, 7, 26, 3, 1, 8, returns == 2 ? 17 : 0, 0, 40 + returns, 0);
+            b.met(0, 4, 0, 0, returns, 1, 1, 7, 26, 3, 1, 8, returns == 2 ? 17 : 0, 0, 40 + returns, 0);
+            int then = returns == 2 ? 44 : 0;
+            for (int by = 38; by <= 39; by++) {
+                int operand = by == 38 ? 0 : 4;
+                int main = b.main(0, 1, 6, by == 39 ? 26 : 0, 0, by, operand, then, 3,
+                        returns == 0 ? 0 : 46, 0, 46, 0, 40, 0);
+                due.text("by " + by + " and " + (40 + returns), b.result(main),
+                        returns == 0 ? "6" : returns == 1 ? "8 6" : "1 6");
+            }
+        }
     }
 
     private static void callsByName() {

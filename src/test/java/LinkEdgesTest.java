@@ -5,6 +5,7 @@ public final class LinkEdgesTest {
     private static final Due due = new Due("link edges");
 
     public static void main(String[] args) {
+        lengths();
         mains();
         numberOfWhatIsWrong();
         whatWasLinkedStays();
@@ -36,8 +37,26 @@ public final class LinkEdgesTest {
         return length < 0 ? "link " + length : b.x.image(2) + " classes, " + b.x.image(3) + " methods";
     }
 
+    private static void lengths() {
+        due.sentence("Links: how long the image is.");
+        for (int instructions = 1; instructions <= 60; instructions++) {
+            Bench b = withMethods(1);
+            for (int i = 1; i < instructions; i++) {
+                b.x.code(0, 0);
+            }
+            b.x.code(40, 0);
+            int length = b.x.link(0);
+            due.is("with so many", length, 18 + instructions);
+            due.is("its last byte", b.x.image(length - 1), 40);
+            due.is("none is behind it", b.x.image(length), BAD);
+            due.is("told(2)", b.x.told(2), length);
+            due.is("linked once more", b.x.link(0), length);
+        }
+    }
+
     private static void mains() {
-        due.sentence("BAD: no such main method (static, without arguments).");
+        due.meeting("LINKING begins with a static main method without arguments.",
+                "BAD: no such main method (static, without arguments).");
         Bench b = new Bench();
         due.is("link(0) of no method", b.x.link(0), BAD);
         b.cls(BAD, 0, 0);

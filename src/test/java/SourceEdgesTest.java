@@ -6,6 +6,7 @@ public final class SourceEdgesTest {
 
     public static void main(String[] args) {
         newObject();
+        whichOne();
         tenClasses();
         superClass();
         fields();
@@ -54,6 +55,16 @@ public final class SourceEdgesTest {
         y.cls(BAD, 0, 0);
         due.is("another object's class is not there", x.told(0), 0);
         due.is("the first class", x.cls(BAD, 0, 0), 0);
+    }
+
+    private static void whichOne() {
+        due.sentence("One more class (above: BAD for none): which one.");
+        PocketMachine x = new PocketMachine();
+        for (int c = 0; c < 10; c++) {
+            due.is("refused ones have no number", x.cls(c, 0, 0), BAD);
+            due.is("class " + c, x.cls(c - 1, c % 7, 6 - c % 7), c);
+            due.is("told(0)", x.told(0), c + 1);
+        }
     }
 
     private static void tenClasses() {

@@ -83,32 +83,23 @@ public final class ThreadEdgesTest {
         due.is("what 3 of one that ended", b.x.thread(0, 3), BAD);
     }
 
-    private static String all(Bench b) {
-        StringBuilder text = new StringBuilder();
-        for (int t = 0; t < b.x.told(4); t++) {
-            text.append(t == 0 ? "" : " ").append(b.x.thread(t, 0)).append('/').append(b.x.thread(t, 1));
-            text.append('/').append(b.x.thread(t, 2));
-        }
-        return text.toString();
-    }
-
     private static void states() {
         due.sentence("0 whether it goes on (0), waits for a monitor now (1), ended (2), ended by an exception (3)");
         Bench b = bench(54, 0, 49, 0, 40, 0);
         b.met(2, 0, 0, 0, 0, 1, 45, 0, 43, 0);
         started(50, b, b.main(0, 26, 0, 16, 0, 55, 0, 49, 0, 26, 0, 48, 0, 26, 2, 48, 0, 51, 0, 47, 0, 20, 9, 40, 0));
-        due.text("booted", all(b), "0/1/0");
+        due.text("booted", b.threads(), "0/1/0");
         b.x.run(9);
-        due.text("two more begun", all(b), "0/1/0 0/1/0 0/1/0");
+        due.text("two more begun", b.threads(), "0/1/0 0/1/0 0/1/0");
         b.x.run(1);
-        due.text("thread 1 waits before 49", all(b), "0/1/0 1/1/0 0/1/0");
+        due.text("thread 1 waits before 49", b.threads(), "0/1/0 1/1/0 0/1/0");
         b.x.run(1);
-        due.text("thread 2 goes on", all(b), "0/1/0 1/1/0 0/1/0");
+        due.text("thread 2 goes on", b.threads(), "0/1/0 1/1/0 0/1/0");
         b.x.run(1);
-        due.text("it is ended by null", all(b), "0/1/0 1/1/0 3/0/-1");
+        due.text("it is ended by null", b.threads(), "0/1/0 1/1/0 3/0/-1");
         b.x.input(1);
         b.x.run(3);
-        due.text("thread 0 ended, thread 1 waits for ever", all(b), "2/0/0 1/1/0 3/0/-1");
+        due.text("thread 0 ended, thread 1 waits for ever", b.threads(), "2/0/0 1/1/0 3/0/-1");
         due.is("none goes on", b.x.run(1), 0);
     }
 
@@ -244,10 +235,10 @@ public final class ThreadEdgesTest {
         Bench b = bench(54, 0, 50, 0, 40, 0);
         due.text("no one has entered it", b.result(b.main(0, 26, 2, 50, 0, 40, 0)), " by -8");
         b.result(b.main(0, 26, 2, 16, 0, 55, 0, 49, 0, 26, 0, 48, 0, 51, 0, 54, 0, 50, 0, 40, 0));
-        due.text("another one has", all(b), "2/0/0 3/0/-8");
+        due.text("another one has", b.threads(), "2/0/0 3/0/-8");
         Bench c = bench(54, 0, 49, 0, 40, 0);
         c.result(c.main(0, 26, 2, 55, 0, 26, 0, 48, 0, 51, 0, 54, 0, 50, 0, 40, 0), 50, 500);
-        due.text("one that ended has", all(c), "3/0/-8 2/0/0");
+        due.text("one that ended has", c.threads(), "3/0/-8 2/0/0");
     }
 
     private static void enteredAndLeft() {
@@ -267,7 +258,7 @@ public final class ThreadEdgesTest {
             int m = c.main(0, 26, 2, 16, 0, 55, 0, 16, 0, 49, 0, 16, 0, 49, 0, 16, 0, 50, 0, left == 2 ? 50 : 17, 0,
                     26, 0, 48, 0, 40, 0);
             c.result(m, 50, 500);
-            due.text("left " + left + " of 2 times", all(c), left == 2 ? "2/0/0 2/0/0" : "2/0/0 1/1/0");
+            due.text("left " + left + " of 2 times", c.threads(), left == 2 ? "2/0/0 2/0/0" : "2/0/0 1/1/0");
         }
         due.text("an array of ints has one, too", b.result(b.main(0, 1, 0, 31, 0, 16, 0, 49, 0, 50, 0, 40, 0)), "");
         due.text("each object has its own", b.result(b.main(0, 26, 2, 49, 0, 26, 2, 50, 0, 40, 0)), " by -8");
@@ -285,7 +276,7 @@ public final class ThreadEdgesTest {
             b.x.run(5000);
         }
         due.text("the 60,001st is refused; one for one", b.outs(), "60001 1");
-        due.text("and then none", all(b), "3/0/-8");
+        due.text("and then none", b.threads(), "3/0/-8");
         due.yes("sound", b.x.sound());
         // 60,000 in, 60,000 out, then another thread may enter it.
         Bench d = bench(54, 0, 49, 0, 1, 7, 46, 0, 40, 0);
@@ -299,7 +290,7 @@ public final class ThreadEdgesTest {
             d.x.run(5000);
         }
         due.text("60,000 times entered, 59,999 times left, and once more", d.outs(), "8 9 7");
-        due.text("both ended", all(d), "2/0/0 2/0/0");
+        due.text("both ended", d.threads(), "2/0/0 2/0/0");
     }
 
     private static void afterTheEnd() {
@@ -307,9 +298,9 @@ public final class ThreadEdgesTest {
         Bench b = bench(54, 0, 49, 0, 40, 0);
         b.met(2, 0, 0, 0, 0, 1, 54, 0, 49, 0, 45, 0, 43, 0);
         b.result(b.main(0, 26, 2, 55, 0, 26, 0, 48, 0, 51, 0, 54, 0, 49, 0, 40, 0), 50, 500);
-        due.text("by its return", all(b), "1/1/0 2/0/0");
+        due.text("by its return", b.threads(), "1/1/0 2/0/0");
         b.result(b.main(0, 26, 2, 55, 0, 26, 2, 48, 0, 51, 0, 54, 0, 49, 0, 40, 0), 50, 500);
-        due.text("by an exception", all(b), "1/1/0 3/0/-1");
+        due.text("by an exception", b.threads(), "1/1/0 3/0/-1");
     }
 
     private static void waitingNow() {
@@ -345,11 +336,11 @@ public final class ThreadEdgesTest {
                 26, 0, 48, 0, 47, 0, 20, 14, 54, 0, 50, 0, 40, 0);
         started(1, b, m);
         b.x.run(100);
-        due.text("five wait", all(b), "0/1/0 1/1/0 1/1/0 1/1/0 1/1/0 1/1/0");
+        due.text("five wait", b.threads(), "0/1/0 1/1/0 1/1/0 1/1/0 1/1/0 1/1/0");
         due.is("all that is done is the first one's", b.x.run(50), 50);
         b.x.input(1);
         b.x.run(5000);
-        due.text("the first of them enters, and stays so", all(b), "2/0/0 2/0/0 1/1/0 1/1/0 1/1/0 1/1/0");
+        due.text("the first of them enters, and stays so", b.threads(), "2/0/0 2/0/0 1/1/0 1/1/0 1/1/0 1/1/0");
         due.text("one went through", b.outs(), "1");
     }
 }
